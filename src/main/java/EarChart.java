@@ -441,7 +441,7 @@ public final class EarChart {
         }
 
         private boolean hasValue(int step) {
-            return hasStep(step) && values[step] != GAP;
+            return step >= 0 && step < count && values[step] != GAP;
         }
 
         private boolean hasWay(int step) {
@@ -496,7 +496,7 @@ public final class EarChart {
             findTurns(row);
         }
 
-        /** From the end, so that the KINDS can then be chosen from the first WAY on, the lesser one wherever it is free. */
+        /** From the end, so that the KINDS can be chosen from the first WAY on, of like costs the lesser one. */
         private void weighWays(Row row, int part) {
             for (int way = STEPS - 2; way >= 0; way--) {
                 if (!row.hasWay(way)) {

@@ -44,6 +44,9 @@ final class PlansTest {
         beats(Due.chart(0, 50, 0, 50), 5, 2, 2, 1);
         beats(Due.chart(0, 50), 200, 200);
         beats(Due.chart(0, 50), 1, 1);
+        Due.fill(chart, 3, 0, 50, 0, 50, 100, 0, 50);
+        DUE.is("a row of more spans", chart.whole(3, 12, 2), 4);
+        beats(chart, 200, 99, 34, 67);
     }
 
     private static void walk() {

@@ -131,6 +131,8 @@ final class ShapesTest {
         DUE.is("no fourth", chart.turn(0, 3), -1);
         DUE.is("-1", chart.turn(0, -1), -1);
         DUE.is("far", chart.turn(0, Integer.MAX_VALUE), -1);
+        Due.fill(chart, 2, 0, 100);
+        DUE.is("a row of one span after one of more", chart.turnsOf(2), 0);
         chart.miss(0, 24);
         DUE.is("50 is above 48", chart.turnsOf(0), 3);
         chart.miss(0, 25);

@@ -48,6 +48,11 @@ final class TonesTest {
         chart.value(1, -1000);
         DUE.is("2000 / 33 is 60: 61 heights", chart.scale(33, 1), -2);
         DUE.is("2000 / 34 is 58: 59 heights", chart.scale(34, 1), 34);
+        chart.clear(1);
+        DUE.is("cleared values do not count", chart.scale(2, 1), 2);
+        chart.clear(0);
+        chart.clear(3);
+        DUE.is("no value any more", chart.scale(2, 1), -2);
     }
 
     /** THE SCALE as its definition has it: by trying every G. */
@@ -111,6 +116,9 @@ final class TonesTest {
         chart.scale(1, 1);
         DUE.is("at first 0 and 2 hide one another, 2 and 5 do not", chart.lay(0), 1);
         DUE.is("slots", chart.slot(1, 0), 1);
+        chart.put(2, 0, 3);
+        DUE.is("at first 3 apart do not hide one another", chart.slot(2, 0), 0);
+        chart.put(2, 0, 5);
         DUE.is("hide -1", chart.ear(-1, 1), false);
         DUE.is("hide 61", chart.ear(61, 1), false);
         DUE.is("late -1", chart.ear(60, -1), false);
@@ -214,6 +222,28 @@ final class TonesTest {
         DUE.is("3 apart does not hide", chart.slot(0, 0), 0);
         chart.put(0, 0, 7);
         DUE.is("2 apart hides", chart.slot(0, 0), 4);
+        highTones();
+        tonesOfAnotherStep();
+    }
+
+    private static void highTones() {
+        EarChart chart = Due.chart(0, 50, 50);
+        Due.fill(chart, 1, 50, 52, 53);
+        chart.scale(1, 1);
+        DUE.is("50 apart", chart.slot(1, 0), 0);
+        DUE.is("2 apart, high up", chart.slot(1, 1), 1);
+        DUE.is("3 apart, high up", chart.slot(1, 2), 0);
+    }
+
+    private static void tonesOfAnotherStep() {
+        EarChart chart = Due.chart(5, Due.GAP);
+        Due.fill(chart, 1, 5, 5);
+        chart.scale(1, 1);
+        DUE.is("both", chart.lay(0), 1);
+        DUE.is("one is gone", chart.lay(1), 0);
+        DUE.is("the other one comes first", chart.slot(1, 1), 0);
+        DUE.is("what is gone is not heard", chart.hears(0, 1, 1), 0);
+        DUE.is("what is gone has no slot", chart.slot(0, 1), -1);
     }
 
     private static void hears() {

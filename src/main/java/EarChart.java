@@ -35,6 +35,11 @@ public final class EarChart {
 
     private static final int LEFT_OUT = 4;
 
+    // Beyond all that there can be, so that the first one found takes their place; no LAYING is dearer than none heard.
+    private static final int NO_LOW = MOST_VALUE + 1;
+    private static final int NO_HIGH = -MOST_VALUE - 1;
+    private static final int NO_LAYING = ROWS * MOST_WORTH + 1;
+
     private final Row[] rows;
     private final Shape shape;
     private final Meeting meeting;
@@ -342,7 +347,7 @@ public final class EarChart {
     }
 
     private int lowestValue() {
-        int low = Integer.MAX_VALUE;
+        int low = NO_LOW;
         for (int row = 0; row < ROWS; row++) {
             low = Math.min(low, rows[row].lowest());
         }
@@ -350,7 +355,7 @@ public final class EarChart {
     }
 
     private int highestValue() {
-        int high = Integer.MIN_VALUE;
+        int high = NO_HIGH;
         for (int row = 0; row < ROWS; row++) {
             high = Math.max(high, rows[row].highest());
         }
@@ -458,7 +463,7 @@ public final class EarChart {
         }
 
         private int lowest() {
-            int low = Integer.MAX_VALUE;
+            int low = NO_LOW;
             for (int step = 0; step < count; step++) {
                 if (values[step] != GAP) {
                     low = Math.min(low, values[step]);
@@ -468,7 +473,7 @@ public final class EarChart {
         }
 
         private int highest() {
-            int high = Integer.MIN_VALUE;
+            int high = NO_HIGH;
             for (int step = 0; step < count; step++) {
                 if (values[step] != GAP) {
                     high = Math.max(high, values[step]);
@@ -656,7 +661,7 @@ public final class EarChart {
         private void find(int hide, int late) {
             this.hide = hide;
             this.late = late;
-            least = Integer.MAX_VALUE;
+            least = NO_LAYING;
             tryFrom(0, 0);
         }
 

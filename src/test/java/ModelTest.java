@@ -1,9 +1,12 @@
 import java.util.List;
 import java.util.Random;
 
-/** Runs of 512 calls, drawn by a fixed seed, of which each answer must be the model's; for all promises. */
+/** Runs of some 512 calls, drawn by a fixed seed, of which each answer must be the model's; for all promises. */
 final class ModelTest {
     private static final Due DUE = new Due();
+    private static final int MOST_CALLS = 512;
+    /** No question of a run is more calls than these. */
+    private static final int CALLS_AT_ONCE = 5;
 
     private final Random random;
     private final int reach;
@@ -19,19 +22,24 @@ final class ModelTest {
     }
 
     public static void main(String[] args) {
-        for (int seed = 0; seed < 100; seed++) {
+        for (int seed = 0; seed < 300; seed++) {
             DUE.promise("run " + seed);
-            ModelTest run = new ModelTest(seed);
-            for (int call = 0; call < 512; call++) {
-                if (run.random.nextInt(5) < 2) {
-                    run.change();
-                } else {
-                    run.ask();
-                }
-            }
+            new ModelTest(seed).run(seed % 3 * 100);
         }
         partingsAgree();
         DUE.end();
+    }
+
+    /** Some runs fill their ROWS first, so that full ones come up too. */
+    private void run(int changesFirst) {
+        int before = DUE.asked();
+        for (int made = 0; made <= MOST_CALLS - CALLS_AT_ONCE; made = DUE.asked() - before) {
+            if (made < changesFirst || random.nextInt(5) < 2) {
+                change();
+            } else {
+                ask();
+            }
+        }
     }
 
     /** Both ways in which the model parts a PIECE must agree where both can be used. */

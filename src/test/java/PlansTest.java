@@ -1,7 +1,6 @@
 /** Promises 25 to 29: THE WHOLE in BEATS, and WALKS. */
 final class PlansTest {
     private static final Due DUE = new Due();
-    private static final int[] NO_ROWS = {-1, 4, Integer.MIN_VALUE, Integer.MAX_VALUE};
 
     public static void main(String[] args) {
         whole();
@@ -38,7 +37,7 @@ final class PlansTest {
         DUE.is("k -1", chart.whole(0, 9, -1), -1);
         DUE.is("k far", chart.whole(0, 9, Integer.MAX_VALUE), -1);
         DUE.is("no span", chart.whole(1, 9, 0), -1);
-        for (int row : NO_ROWS) {
+        for (int row : Due.NO_ROWS) {
             DUE.is("no row", chart.whole(row, 9, 0), -1);
         }
         beats(Due.chart(0, 50, 0, 50), 5, 2, 2, 1);
@@ -56,7 +55,7 @@ final class PlansTest {
         DUE.is("beyond", chart.walk(0, 3), false);
         DUE.is("ahead", chart.walk(0, -1), false);
         DUE.is("far", chart.walk(0, Integer.MAX_VALUE), false);
-        for (int row : NO_ROWS) {
+        for (int row : Due.NO_ROWS) {
             DUE.is("no row", chart.walk(row, 0), false);
         }
         DUE.is("no walk by what is refused", chart.where(0), -1);

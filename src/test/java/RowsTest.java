@@ -1,7 +1,6 @@
 /** Promises 1 to 8: a new object, and what ROWS hold. */
 final class RowsTest {
     private static final Due DUE = new Due();
-    private static final int[] NO_ROWS = {-1, 4, Integer.MIN_VALUE, Integer.MAX_VALUE};
 
     public static void main(String[] args) {
         aNewObject();
@@ -51,7 +50,7 @@ final class RowsTest {
         DUE.is("too great", chart.value(0, 1001), -1);
         DUE.is("-5000", chart.value(0, -5000), -1);
         DUE.is("least int", chart.value(0, Integer.MIN_VALUE), -1);
-        for (int row : NO_ROWS) {
+        for (int row : Due.NO_ROWS) {
             DUE.is("no row", chart.value(row, 0), -1);
         }
         DUE.is("of another row", chart.value(3, 5), 1);
@@ -74,7 +73,7 @@ final class RowsTest {
         DUE.is("a value behind them", chart.value(2, 1), -1);
         DUE.is("the last", chart.at(2, 39), -5000);
         DUE.is("of another row", chart.gap(1), 1);
-        for (int row : NO_ROWS) {
+        for (int row : Due.NO_ROWS) {
             DUE.is("no row", chart.gap(row), -1);
         }
     }
@@ -94,7 +93,7 @@ final class RowsTest {
         DUE.is("too small", chart.put(0, 0, -1001), false);
         DUE.is("too great", chart.put(0, 0, 1001), false);
         DUE.is("empty row", chart.put(1, 0, 1), false);
-        for (int row : NO_ROWS) {
+        for (int row : Due.NO_ROWS) {
             DUE.is("no row", chart.put(row, 0, 1), false);
         }
         DUE.is("at 0, still", chart.at(0, 0), -1000);
@@ -118,7 +117,7 @@ final class RowsTest {
         DUE.is("a step again", chart.value(0, 4), 1);
         DUE.is("none behind it", chart.at(0, 1), -6000);
         DUE.is("no spans of old steps", chart.spans(0), 0);
-        for (int row : NO_ROWS) {
+        for (int row : Due.NO_ROWS) {
             DUE.is("no row", chart.clear(row), -1);
         }
         DUE.is("a walk, still", chart.where(1), 1);
@@ -139,7 +138,7 @@ final class RowsTest {
         DUE.is("of another row", chart.miss(3, 6), 0);
         DUE.is("each its own", chart.miss(0, 0), 5);
         DUE.is("each its own", chart.miss(3, 0), 6);
-        for (int row : NO_ROWS) {
+        for (int row : Due.NO_ROWS) {
             DUE.is("no row", chart.miss(row, 0), -1);
         }
     }
@@ -167,7 +166,7 @@ final class RowsTest {
         DUE.is("far ahead", chart.at(0, Integer.MIN_VALUE), -6000);
         DUE.is("far beyond", chart.at(0, Integer.MAX_VALUE), -6000);
         DUE.is("empty row", chart.at(1, 0), -6000);
-        for (int row : NO_ROWS) {
+        for (int row : Due.NO_ROWS) {
             DUE.is("no row", chart.at(row, 0), -6000);
         }
     }

@@ -1,7 +1,6 @@
 /** Promises 9 to 17: SPANS, TURNS, what is SURE, CROSSINGS. */
 final class ShapesTest {
     private static final Due DUE = new Due();
-    private static final int[] NO_ROWS = {-1, 4, Integer.MIN_VALUE, Integer.MAX_VALUE};
 
     public static void main(String[] args) {
         spansAndCost();
@@ -36,7 +35,7 @@ final class ShapesTest {
         chart.part(10);
         DUE.is("one rise", chart.spans(0), 1);
         DUE.is("a part and three falls", chart.cost(0), 28);
-        for (int row : NO_ROWS) {
+        for (int row : Due.NO_ROWS) {
             DUE.is("no row", chart.spans(row), -1);
             DUE.is("no row", chart.cost(row), -1);
         }
@@ -87,7 +86,7 @@ final class ShapesTest {
         DUE.is("k far", chart.span(0, Integer.MAX_VALUE, 0), -1);
         DUE.is("k far ahead", chart.span(0, Integer.MIN_VALUE, 0), -1);
         DUE.is("an empty row after a full one", chart.span(1, 0, 0), -1);
-        for (int row : NO_ROWS) {
+        for (int row : Due.NO_ROWS) {
             DUE.is("no row", chart.span(row, 0, 0), -1);
         }
     }
@@ -116,7 +115,7 @@ final class ShapesTest {
         DUE.is("far", chart.kind(0, Integer.MAX_VALUE), 0);
         DUE.is("far ahead", chart.kind(0, Integer.MIN_VALUE), 0);
         DUE.is("an empty row after a full one", chart.kind(1, 0), 0);
-        for (int row : NO_ROWS) {
+        for (int row : Due.NO_ROWS) {
             DUE.is("no row", chart.kind(row, 0), 0);
         }
     }
@@ -142,7 +141,7 @@ final class ShapesTest {
         DUE.is("60 is not above 60", chart.turnsOf(0), 0);
         DUE.is("an empty row", chart.turnsOf(1), 0);
         DUE.is("of an empty row", chart.turn(1, 0), -1);
-        for (int row : NO_ROWS) {
+        for (int row : Due.NO_ROWS) {
             DUE.is("no row", chart.turnsOf(row), -1);
             DUE.is("no row", chart.turn(row, 0), -1);
         }
@@ -194,7 +193,7 @@ final class ShapesTest {
         chart.miss(3, 3);
         DUE.is("5 not above 5", chart.sure(0, 3, 0), 0);
         DUE.is("5 not below 5", chart.sure(0, 3, 1), 0);
-        for (int row : NO_ROWS) {
+        for (int row : Due.NO_ROWS) {
             DUE.is("no row", chart.sure(row, 0, 0), -2);
             DUE.is("no other row", chart.sure(0, row, 0), -2);
         }
@@ -222,7 +221,7 @@ final class ShapesTest {
         DUE.is("with an empty row", chart.crossings(0, 1), 0);
         DUE.is("with itself", chart.crossings(2, 2), -1);
         DUE.is("with itself", chart.crossing(0, 0, 0), -1);
-        for (int row : NO_ROWS) {
+        for (int row : Due.NO_ROWS) {
             DUE.is("no row", chart.crossings(row, 0), -1);
             DUE.is("no other row", chart.crossings(0, row), -1);
             DUE.is("no row", chart.crossing(row, 0, 0), -1);

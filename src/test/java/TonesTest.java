@@ -1,7 +1,6 @@
 /** Promises 18 to 24: THE SCALE, HEIGHTS, LAYING and THE LISTENER. */
 final class TonesTest {
     private static final Due DUE = new Due();
-    private static final int[] NO_ROWS = {-1, 4, Integer.MIN_VALUE, Integer.MAX_VALUE};
 
     public static void main(String[] args) {
         scale();
@@ -58,8 +57,8 @@ final class TonesTest {
     /** THE SCALE as its definition has it: by trying every G. */
     private static void scaleKeepsApart() {
         DUE.promise("promise 18, by trying");
-        EarChart chart = Due.chart(7);
         for (int d = 1; d <= 2000; d += d < 60 ? 1 : 97) {
+            EarChart chart = Due.chart(7);
             for (int apart = 1; apart <= 20; apart++) {
                 int greatest = 0;
                 for (int g = 1; g <= d; g++) {
@@ -93,7 +92,7 @@ final class TonesTest {
         DUE.is("ahead", chart.height(0, -1), -1);
         DUE.is("far", chart.height(0, Integer.MAX_VALUE), -1);
         DUE.is("empty row", chart.height(1, 0), -1);
-        for (int row : NO_ROWS) {
+        for (int row : Due.NO_ROWS) {
             DUE.is("no row", chart.height(row, 0), -1);
         }
         chart.value(2, -1);
@@ -146,7 +145,7 @@ final class TonesTest {
         DUE.is("it stays", chart.worth(0, 5), 0);
         DUE.is("of another row", chart.worth(3, 6), 50);
         DUE.is("each its own", chart.worth(0, 0), 5);
-        for (int row : NO_ROWS) {
+        for (int row : Due.NO_ROWS) {
             DUE.is("no row", chart.worth(row, 0), -1);
         }
     }
@@ -200,7 +199,7 @@ final class TonesTest {
         DUE.is("beyond its row", chart.slot(1, 1), -1);
         DUE.is("ahead", chart.slot(0, -1), -1);
         DUE.is("far", chart.slot(0, Integer.MAX_VALUE), -1);
-        for (int row : NO_ROWS) {
+        for (int row : Due.NO_ROWS) {
             DUE.is("no row", chart.slot(row, 0), -1);
         }
         chart.ear(3, 25);
@@ -263,7 +262,7 @@ final class TonesTest {
         DUE.is("beyond", chart.hears(1, 0, 40), -2);
         DUE.is("ahead", chart.hears(1, 0, -1), -2);
         DUE.is("itself", chart.hears(1, 1, 0), -2);
-        for (int row : NO_ROWS) {
+        for (int row : Due.NO_ROWS) {
             DUE.is("no row", chart.hears(row, 0, 0), -2);
             DUE.is("no other row", chart.hears(0, row, 0), -2);
         }

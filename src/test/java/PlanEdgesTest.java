@@ -10,6 +10,7 @@ final class PlanEdgesTest {
         wholeByRests();
         wholeOfManySpans();
         wholeWithoutSpans();
+        wholeOfAShortRowBehindALongOne();
         wholeAddsUp();
         walksAtEnds();
         walksRefused();
@@ -117,6 +118,17 @@ final class PlanEdgesTest {
             for (int beats : new int[] {1, 200}) {
                 DUE.is("whole(0, " + beats + ", 0)", Due.chart(row).whole(0, beats, 0), -1);
             }
+        }
+    }
+
+    private static void wholeOfAShortRowBehindALongOne() {
+        DUE.promise("promise 25, a short ROW asked behind a long one");
+        EarChart chart = Due.chart(0, 50, 100, 0);
+        Due.fill(chart, 1, Due.zigzag(0, 100));
+        int[][] due = {{1, 1}, {2, 1}, {2, 2}, {3, 2}, {4, 2}, {4, 3}};
+        for (int[] both : due) {
+            chart.whole(1, 200, 0);
+            beats(chart, both[0] + both[1], both);
         }
     }
 

@@ -9,12 +9,14 @@ final class ShapeEdgesTest {
         leastAndGreatestPart();
         costsThatMeet();
         likeCosts();
+        shortRowBehindALongOne();
         spanNumbers();
         kindsAtEnds();
         turnsByMiss();
         turnsByTheEndsOfSpans();
         turnsAtEnds();
         sureByMiss();
+        everyPair();
         sureWithoutValues();
         crossingsOverUnsureSteps();
         crossingsOverGaps();
@@ -142,6 +144,27 @@ final class ShapeEdgesTest {
         shape("still between falls, PART of 0: a rise", cheap, 0, 2, 1, 2);
         shape("a fall that costs as much as a PART", Due.chart(0, 50, 40), 20, 1, 1);
         shape("by one more than a PART", Due.chart(0, 50, 39), 20, 1, 2);
+    }
+
+    private static void shortRowBehindALongOne() {
+        DUE.promise("promises 9 to 14, a short ROW asked behind a long one");
+        EarChart chart = Due.chart(0, 50, 0, G, 70);
+        Due.fill(chart, 1, Due.zigzag(0, 100));
+        DUE.is("the long one, SPANS", chart.spans(1), 39);
+        DUE.is("SPANS", chart.spans(0), 2);
+        chart.turnsOf(1);
+        DUE.is("TURNS", chart.turnsOf(0), 1);
+        chart.cost(1);
+        DUE.is("cost", chart.cost(0), 20);
+        chart.span(1, 2, 0);
+        DUE.is("a third SPAN", chart.span(0, 2, 0), -1);
+        chart.turn(1, 1);
+        DUE.is("a second TURN", chart.turn(0, 1), -1);
+        chart.kind(1, 2);
+        DUE.is("a third WAY", chart.kind(0, 2), 0);
+        chart.part(10000);
+        chart.cost(1);
+        DUE.is("cost, PART of 10000", chart.cost(0), 10050);
     }
 
     // ---- promises 11 and 12
@@ -313,6 +336,21 @@ final class ShapeEdgesTest {
         DUE.is("401", wide.sure(0, 1, 1), 1);
         DUE.is("401, turned round", wide.sure(1, 0, 1), -1);
         DUE.is("2000", wide.sure(0, 1, 2), 1);
+    }
+
+    private static void everyPair() {
+        DUE.promise("promises 15 to 17, every two ROWS");
+        EarChart chart = new EarChart();
+        for (int row = 0; row < 4; row++) {
+            Due.fill(chart, row, row, -row);
+        }
+        for (int a = 0; a < 4; a++) {
+            for (int b = 0; b < 4; b++) {
+                DUE.is("sure(" + a + ", " + b + ", 0)", chart.sure(a, b, 0), a == b ? -2 : Integer.compare(a, b));
+                DUE.is("crossings(" + a + ", " + b + ")", chart.crossings(a, b), a == b ? -1 : 1);
+                DUE.is("crossing(" + a + ", " + b + ", 0)", chart.crossing(a, b, 0), a == b ? -1 : 1);
+            }
+        }
     }
 
     private static void sureWithoutValues() {

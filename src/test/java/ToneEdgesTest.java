@@ -157,6 +157,9 @@ final class ToneEdgesTest {
         high.put(0, 0, 1000);
         high.put(0, 1, -1000);
         DUE.is("2000", high.height(0, 0), 2000);
+        DUE.promise("promise 19, the greatest and the least VALUE alone");
+        DUE.is("1000", Due.tones(1, 1000).height(0, 0), 0);
+        DUE.is("-1000", Due.tones(1, -1000).height(0, 0), 0);
         DUE.promise("promise 19, the last STEP of a full ROW");
         EarChart full = Due.chart(Due.zigzag(0, 9));
         full.scale(1, 1);
@@ -511,6 +514,13 @@ final class ToneEdgesTest {
         DUE.promise("promise 24, no such STEP");
         for (int step : Due.NO_STEPS) {
             DUE.is("hears(0, 1, " + step + ")", chart.hears(0, 1, step), -2);
+        }
+        DUE.promise("promise 24, every two ROWS");
+        EarChart four = Due.tones(10, 0, 10, 20, 30);
+        for (int a = 0; a < 4; a++) {
+            for (int b = 0; b < 4; b++) {
+                DUE.is("hears(" + a + ", " + b + ", 0)", four.hears(a, b, 0), a == b ? -2 : Integer.compare(a, b));
+            }
         }
         DUE.promise("promise 24, a ROW and itself");
         for (int row = 0; row < 4; row++) {

@@ -125,7 +125,7 @@ final class PlanEdgesTest {
         DUE.promise("promise 25, a short ROW asked behind a long one");
         EarChart chart = Due.chart(0, 50, 100, 0);
         Due.fill(chart, 1, Due.zigzag(0, 100));
-        int[][] due = {{1, 1}, {2, 1}, {2, 2}, {3, 2}, {4, 2}, {4, 3}};
+        int[][] due = {{1, 1}, {2, 1}, {2, 2}, {3, 2}, {4, 2}, {4, 3}, {133, 67}};
         for (int[] both : due) {
             chart.whole(1, 200, 0);
             beats(chart, both[0] + both[1], both);

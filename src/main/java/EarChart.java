@@ -673,21 +673,25 @@ public final class EarChart {
             if (row >= ROWS) {
                 least = spent;
                 System.arraycopy(trial, 0, slots, 0, ROWS);
-                return;
+            } else if (heights[row] == NONE) {
+                tryWith(row, NONE, spent);
+            } else {
+                tryPlaces(row, spent);
             }
-            if (heights[row] == NONE) {
-                trial[row] = NONE;
-                tryFrom(row + 1, spent);
-                return;
-            }
+        }
+
+        private void tryPlaces(int row, int spent) {
             for (int place = 0; place < LEFT_OUT; place++) {
                 if (isFree(row, place)) {
-                    trial[row] = place;
-                    tryFrom(row + 1, spent + place * late);
+                    tryWith(row, place, spent + place * late);
                 }
             }
-            trial[row] = LEFT_OUT;
-            tryFrom(row + 1, spent + worths[row]);
+            tryWith(row, LEFT_OUT, spent + worths[row]);
+        }
+
+        private void tryWith(int row, int place, int spent) {
+            trial[row] = place;
+            tryFrom(row + 1, spent);
         }
 
         private boolean isFree(int row, int place) {
